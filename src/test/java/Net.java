@@ -76,6 +76,13 @@ final class Net {
         return this;
     }
 
+    /** Client 0's open request is stamped again, for one replica alone. */
+    Net deliverNext(int replica) {
+        table.again(0);
+        deliver("STAMPED", SEQUENCER, replica);
+        return loseAll("STAMPED");
+    }
+
     /** Delivers all, and what comes by it. */
     Net settle() {
         for (int i = 0; i < 1000 && table.about(0) > 0; i++) {
