@@ -1,0 +1,120 @@
+import java.lang.reflect.Array;
+import java.lang.reflect.Field;
+
+/**
+ * Promise 21. Replicas that keep to the document hold to what they ACCEPTED, so that broken() answers
+ * 0 after any calls; to see it answer more, entries are changed here behind the object's back.
+ */
+final class BrokenTest {
+    private static final int SEQ = Net.SEQUENCER;
+
+    public static void main(String[] args) throws ReflectiveOperationException {
+        anotherEntry();
+        anotherAnswer();
+        notExecutedIsNoOtherAnswer();
+        whoCounts();
+        anOldLeaderDoesNotCount();
+        Check.end();
+    }
+
+    private static Object field(Object of, String name) throws ReflectiveOperationException {
+        Field f = of.getClass().getDeclaredField(name);
+        f.setAccessible(true);
+        return f.get(of);
+    }
+
+    /** The entry is a request's place in the order of all request calls, from 1 on; 0 is a NOTHING. */
+    private static void change(Net net, int replica, int slot, int entry) throws ReflectiveOperationException {
+        Object log = field(Array.get(field(net.table, "replicas"), replica), "log");
+        ((int[]) field(log, "entries"))[slot - 1] = entry;
+    }
+
+    /** Four ACCEPTED requests of four clients: answers 0, 5, 5, 8. */
+    private static Net four() {
+        Net net = new Net(3);
+        net.ask(0, Net.ADD, 0, 5).settle().ask(1, Net.GET, 0, 0).settle();
+        net.ask(2, Net.ADD, 0, 3).settle().ask(3, Net.GET, 0, 0).settle();
+        Check.due("four are ACCEPTED", net.table.about(6) + " " + net.table.broken(), "4 0");
+        return net;
+    }
+
+    private static void anotherEntry() throws ReflectiveOperationException {
+        Net net = four();
+        change(net, 0, 4, 0);
+        Check.due("a NOTHING instead", net.table.broken(), 1);
+        change(net, 0, 4, 2);
+        Check.due("another request instead", net.table.broken(), 1);
+        change(net, 0, 4, 4);
+        Check.due("as it was", net.table.broken(), 0);
+        change(net, 0, 1, 2);
+        change(net, 0, 2, 1);
+        Check.due("two that have changed places", net.table.broken(), 2);
+    }
+
+    private static void anotherAnswer() throws ReflectiveOperationException {
+        Net net = four();
+        change(net, 0, 1, 0);
+        Check.due("one is gone, three have other answers", net.table.broken(), 4);
+        Net twice = new Net(3);
+        twice.ask(0, Net.ADD, 0, 5);
+        twice.table.again(0);
+        twice.deliver("STAMPED", SEQ, 0).lose("REPLY", 0, 0).settle();
+        Check.due("ACCEPTED where it comes a second time", twice.client(0) + " " + twice.table.broken(),
+            "2 slot 2 view 0/1 answer 0 0");
+        twice.ask(1, Net.ADD, 0, 7).settle();
+        change(twice, 0, 1, 2);
+        Check.due("it is there, but with another answer; so has the other one", twice.table.broken(), 2);
+    }
+
+    private static void notExecutedIsNoOtherAnswer() throws ReflectiveOperationException {
+        Net net = new Net(3);
+        net.ask(0, Net.ADD, 0, 5).loseAll();
+        net.table.again(0);
+        net.settle();
+        net.ask(0, Net.ADD, 0, 6).settle();
+        Check.due("before", net.log(0) + " " + net.table.broken(), "- 0.1 0.2 0");
+        change(net, 0, 1, 2);
+        Check.due("the first is not executed now, the second with another answer", net.table.broken(), 1);
+    }
+
+    private static void whoCounts() throws ReflectiveOperationException {
+        Net net = four();
+        change(net, 1, 1, 0);
+        Check.due("one that does not lead", net.table.broken(), 0);
+        change(net, 0, 4, 0);
+        net.table.down(0);
+        Check.due("a leader that is DOWN", net.table.broken(), 1);
+        net.table.up(0);
+        net.table.suspect(0);
+        Check.due("one that leads no more", net.table.broken(), 0);
+        for (int i = 0; i < 2; i++) {
+            net.table.suspect(0);
+        }
+        Check.due("a leader in CHANGE", net.state(0) + " " + net.table.broken(),
+            "CHANGE 3/1 base 0 log 4 point 0 held 0 last 0/1 synced 0 0");
+        net.settle();
+        Check.due("a leader of a later view, that merged", net.log(0) + " " + net.table.broken(), "- 1.1 2.1 - 4");
+        Net gap = four();
+        gap.ask(0, Net.GET, 0, 0).loseAll();
+        gap.table.again(0);
+        gap.deliver("STAMPED", SEQ, 0);
+        change(gap, 0, 4, 0);
+        Check.due("a leader in GAP", gap.table.replica(0, 1) * 10 + gap.table.broken(), 11);
+    }
+
+    private static void anOldLeaderDoesNotCount() throws ReflectiveOperationException {
+        Net net = new Net(3);
+        net.ask(0, Net.PUT, 0, 1).settle();
+        net.table.suspect(2);
+        net.deliver("TURNED", 2, 1).deliver("START", 1, 2).loseAll();
+        net.ask(1, Net.PUT, 0, 2);
+        net.deliver("STAMPED", SEQ, 1).deliver("STAMPED", SEQ, 2).deliver("REPLY", 1, 1).deliver("REPLY", 2, 1);
+        Check.due("ACCEPTED in the second view", net.client(1), "2 slot 2 view 1/1 answer 1");
+        Check.due("the old leader is in the first", net.state(0), "NORMAL 0/1 base 0 log 1 point 0 held 0 last 0/1 synced 0");
+        Check.due("it need not have it", net.table.broken(), 0);
+        change(net, 0, 1, 0);
+        Check.due("but the first one", net.table.broken(), 1);
+        change(net, 1, 1, 0);
+        Check.due("each is counted once, the second by its answer", net.table.broken(), 2);
+    }
+}
