@@ -29,6 +29,13 @@ final class BrokenTest {
         ((int[]) field(log, "entries"))[slot - 1] = entry;
     }
 
+    private static void cut(Net net, int replica, int length) throws ReflectiveOperationException {
+        Object log = field(Array.get(field(net.table, "replicas"), replica), "log");
+        Field f = log.getClass().getDeclaredField("length");
+        f.setAccessible(true);
+        f.setInt(log, length);
+    }
+
     /** Four ACCEPTED requests of four clients: answers 0, 5, 5, 8. */
     private static Net four() {
         Net net = new Net(3);
@@ -49,6 +56,9 @@ final class BrokenTest {
         change(net, 0, 1, 2);
         change(net, 0, 2, 1);
         Check.due("two that have changed places", net.table.broken(), 2);
+        Net shorter = four();
+        cut(shorter, 0, 3);
+        Check.due("one that is not there", shorter.table.broken(), 1);
     }
 
     private static void anotherAnswer() throws ReflectiveOperationException {
@@ -72,9 +82,12 @@ final class BrokenTest {
         net.table.again(0);
         net.settle();
         net.ask(0, Net.ADD, 0, 6).settle();
-        Check.due("before", net.log(0) + " " + net.table.broken(), "- 0.1 0.2 0");
+        net.ask(1, Net.PUT, 0, 9).settle();
+        Check.due("before", net.log(0) + " " + net.table.broken(), "- 0.1 0.2 1.1 0");
+        change(net, 0, 1, 3);
+        Check.due("all have other answers", net.table.broken(), 3);
         change(net, 0, 1, 2);
-        Check.due("the first is not executed now, the second with another answer", net.table.broken(), 1);
+        Check.due("the first is not executed now, the two others with other answers", net.table.broken(), 2);
     }
 
     private static void whoCounts() throws ReflectiveOperationException {

@@ -4,6 +4,7 @@ final class MergeTest {
 
     public static void main(String[] args) {
         nothingWins();
+        nothingWinsWhereItHasNone();
         theLongestCounts();
         anOlderViewDoesNotCount();
         itsOwnDoesNotCountIfOlder();
@@ -33,6 +34,28 @@ final class MergeTest {
         others.table.suspect(1);
         others.deliver("TURNED", 1, 2);
         Check.due("its own NOTHING", others.log(2), "- 1.1");
+    }
+
+    private static void nothingWinsWhereItHasNone() {
+        for (int lead = 1; lead < 5; lead += 3) {
+            Net net = new Net(5);
+            net.ask(0, Net.PUT, 0, 1).ask(1, Net.PUT, 0, 2);
+            net.lose("STAMPED", SEQ, 0).deliver("STAMPED", SEQ, 0);
+            net.deliver("GAP COMMIT", 0, 2).deliver("STAMPED", SEQ, 3).deliver("STAMPED", SEQ, 3).loseAll();
+            for (int i = 0; i < lead; i++) {
+                net.table.suspect(3);
+                net.table.suspect(2);
+            }
+            net.loseAll("TURN").deliver("TURNED", 2, lead).deliver("TURNED", 3, lead);
+            Check.due("a NOTHING of 2, a request of 3", net.log(lead), "- 1.1");
+        }
+        Net net = new Net(5);
+        net.ask(0, Net.PUT, 0, 1).ask(1, Net.PUT, 0, 2);
+        net.deliver("STAMPED", SEQ, 0).deliver("STAMPED", SEQ, 0).deliver("STAMPED", SEQ, 3).loseAll();
+        net.table.suspect(0);
+        net.table.suspect(3);
+        net.loseAll("TURN").deliver("TURNED", 0, 1).deliver("TURNED", 3, 1);
+        Check.due("replica 0 has the longest", net.log(1), "0.1 1.1");
     }
 
     private static void theLongestCounts() {

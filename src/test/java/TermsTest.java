@@ -9,11 +9,14 @@ final class TermsTest {
         heldRequestsAreTakenInOrder();
         eightAreHeld();
         foundBesideEight();
+        stampedTooLate();
         stampedOfAnotherSession();
+        theHundredthIsTaken();
         aFullLogTakesNoMore();
         lookupIsAnswered();
         foundTooLate();
         leaderMissesOne();
+        gapRepliesAreCountedAnew();
         gapReplyOfAnotherSlot();
         gapCommitOverARequest();
         gapCommitOverWhatIsHeld();
@@ -28,6 +31,7 @@ final class TermsTest {
         turnedIsCountedOnceAndTheLatest();
         startIsSentAgain();
         startBringsAllAndTakesNothing();
+        startForgetsWhatIsHeld();
         messagesOfOtherViews();
         repliesOnlyOfTheLatest();
         acceptedOnlyWithTheLeader();
@@ -128,6 +132,37 @@ final class TermsTest {
         Check.due("but found it is", net.state(1), "NORMAL 0/1 base 0 log 9 point 0 held 0 last 0/1 synced 0");
     }
 
+    private static void stampedTooLate() {
+        Net net = new Net(3);
+        net.ask(0, Net.PUT, 0, 1).ask(1, Net.PUT, 0, 2).ask(2, Net.PUT, 0, 3).ask(3, Net.PUT, 0, 4);
+        net.table.deliver(3);
+        net.table.deliver(4);
+        net.deliver("GAP COMMIT", 0, 1);
+        net.table.deliver(7);
+        net.table.deliver(1);
+        Check.due("a number below the log's end", net.state(1), "NORMAL 0/1 base 0 log 3 point 0 held 0 last 0/1 synced 0");
+        Check.due("changes nothing there", net.log(1), "- 1.1 2.1");
+        net.deliver("GAP COMMIT", 0, 2);
+        int sent = net.table.about(1);
+        net.table.deliver(2);
+        Check.due("nor one at its end", net.state(2), "NORMAL 0/1 base 0 log 1 point 0 held 0 last 0/1 synced 0");
+        Check.due("and nothing is sent", net.table.about(1), sent);
+    }
+
+    private static void theHundredthIsTaken() {
+        Net net = new Net(3);
+        net.ask(0, Net.ADD, 0, 1);
+        for (int i = 0; i < 102; i++) {
+            net.deliver("STAMPED", SEQ, 0).deliver("STAMPED", SEQ, 1).loseAll("STAMPED");
+            Check.due("REPLYs", net.air(), i < 100 ? "REPLY 0>0, REPLY 1>0" : "");
+            net.loseAll();
+            net.table.again(0);
+        }
+        Check.due("100 are taken", net.state(0), "NORMAL 0/1 base 0 log 100 point 0 held 2 last 0/1 synced 0");
+        Check.due("of another one too", net.state(1), "NORMAL 0/1 base 0 log 100 point 0 held 2 last 0/1 synced 0");
+        Check.due("the 100th is a request", net.table.entry(0, 100, 0) + net.table.entry(1, 100, 0), 2);
+    }
+
     private static void stampedOfAnotherSession() {
         Net net = new Net(3);
         net.ask(0, Net.PUT, 0, 1).settle();
@@ -206,8 +241,7 @@ final class TermsTest {
         net.deliver("GAP COMMIT", 0, 1).deliver("GAP REPLY", 1, 0);
         Check.due("which is counted", net.state(0), "GAP 0/1 base 0 log 1 point 0 held 1 last 0/1 synced 0");
         Check.due("and goes on there", net.log(1), "- 1.1");
-        net.loseAll();
-        net.table.suspect(0);
+
         Net change = new Net(3);
         change.ask(0, Net.PUT, 0, 1).ask(1, Net.PUT, 0, 2);
         change.lose("STAMPED", SEQ, 1).deliver("STAMPED", SEQ, 1).deliver("STAMPED", SEQ, 0);
@@ -261,6 +295,21 @@ final class TermsTest {
         net.deliver("STAMPED", SEQ, 1).loseAll("STAMPED").loseAll("LOOKUP");
         net.deliver("GAP COMMIT", 0, 1);
         Check.due("not the next one of another", net.log(1), "-");
+    }
+
+    private static void gapRepliesAreCountedAnew() {
+        Net net = new Net(5);
+        net.ask(0, Net.PUT, 0, 1).ask(1, Net.PUT, 0, 2).ask(2, Net.PUT, 0, 3).ask(3, Net.PUT, 0, 4);
+        net.table.deliver(5);
+        for (int r = 1; r < 3; r++) {
+            net.deliver("GAP COMMIT", 0, r).deliver("GAP REPLY", r, 0).deliver("STAMPED", SEQ, r).deliver("STAMPED", SEQ, r);
+        }
+        net.table.deliver(15);
+        Check.due("a second GAP", net.log(0) + " " + net.table.replica(0, 1), "- 1.1 - 1");
+        net.deliver("GAP COMMIT", 0, 1).deliver("GAP REPLY", 1, 0);
+        Check.due("one GAP REPLY of it", net.table.replica(0, 1), 1);
+        net.deliver("GAP COMMIT", 0, 2).deliver("GAP REPLY", 2, 0);
+        Check.due("two", net.log(0) + " " + net.table.replica(0, 1), "- 1.1 - 3.1 0");
     }
 
     private static void gapReplyOfAnotherSlot() {
@@ -542,6 +591,17 @@ final class TermsTest {
         Check.due("BASE of an old session is kept in it", net.state(0), "NORMAL 2/2 base 1 log 1 point 1 held 0 last 2/2 synced 0");
         net.deliver("TURN", 2, 1);
         Check.due("a START of a view that it is NORMAL in", net.state(1), "NORMAL 2/2 base 1 log 1 point 1 held 0 last 2/2 synced 0");
+    }
+
+    private static void startForgetsWhatIsHeld() {
+        Net net = new Net(3);
+        net.ask(0, Net.PUT, 0, 1).ask(1, Net.PUT, 0, 2);
+        net.lose("STAMPED", SEQ, 0).deliver("STAMPED", SEQ, 0);
+        net.loseAll();
+        Check.due("in GAP with one HELD", net.state(0), "GAP 0/1 base 0 log 1 point 0 held 1 last 0/1 synced 0");
+        net.table.suspect(2);
+        net.deliver("TURNED", 2, 1).deliver("START", 1, 0);
+        Check.due("START ends both", net.state(0), "NORMAL 1/1 base 0 log 0 point 0 held 0 last 1/1 synced 0");
     }
 
     private static void messagesOfOtherViews() {
