@@ -1,6 +1,3 @@
-import java.lang.reflect.Array;
-import java.lang.reflect.Field;
-
 /**
  * Promise 21. Replicas that keep to the document hold to what they ACCEPTED, so that broken() answers
  * 0 after any calls; to see it answer more, entries are changed here behind the object's back.
@@ -8,32 +5,13 @@ import java.lang.reflect.Field;
 final class BrokenTest {
     private static final int SEQ = Net.SEQUENCER;
 
-    public static void main(String[] args) throws ReflectiveOperationException {
+    public static void main(String[] args) {
         anotherEntry();
         anotherAnswer();
         notExecutedIsNoOtherAnswer();
         whoCounts();
         anOldLeaderDoesNotCount();
         Check.end();
-    }
-
-    private static Object field(Object of, String name) throws ReflectiveOperationException {
-        Field f = of.getClass().getDeclaredField(name);
-        f.setAccessible(true);
-        return f.get(of);
-    }
-
-    /** The entry is a request's place in the order of all request calls, from 1 on; 0 is a NOTHING. */
-    private static void change(Net net, int replica, int slot, int entry) throws ReflectiveOperationException {
-        Object log = field(Array.get(field(net.table, "replicas"), replica), "log");
-        ((int[]) field(log, "entries"))[slot - 1] = entry;
-    }
-
-    private static void cut(Net net, int replica, int length) throws ReflectiveOperationException {
-        Object log = field(Array.get(field(net.table, "replicas"), replica), "log");
-        Field f = log.getClass().getDeclaredField("length");
-        f.setAccessible(true);
-        f.setInt(log, length);
     }
 
     /** Four ACCEPTED requests of four clients: answers 0, 5, 5, 8. */
@@ -45,25 +23,25 @@ final class BrokenTest {
         return net;
     }
 
-    private static void anotherEntry() throws ReflectiveOperationException {
+    private static void anotherEntry() {
         Net net = four();
-        change(net, 0, 4, 0);
+        Behind.putEntry(net, 0, 4, 0);
         Check.due("a NOTHING instead", net.table.broken(), 1);
-        change(net, 0, 4, 2);
+        Behind.putEntry(net, 0, 4, 2);
         Check.due("another request instead", net.table.broken(), 1);
-        change(net, 0, 4, 4);
+        Behind.putEntry(net, 0, 4, 4);
         Check.due("as it was", net.table.broken(), 0);
-        change(net, 0, 1, 2);
-        change(net, 0, 2, 1);
+        Behind.putEntry(net, 0, 1, 2);
+        Behind.putEntry(net, 0, 2, 1);
         Check.due("two that have changed places", net.table.broken(), 2);
         Net shorter = four();
-        cut(shorter, 0, 3);
+        Behind.cutLog(shorter, 0, 3);
         Check.due("one that is not there", shorter.table.broken(), 1);
     }
 
-    private static void anotherAnswer() throws ReflectiveOperationException {
+    private static void anotherAnswer() {
         Net net = four();
-        change(net, 0, 1, 0);
+        Behind.putEntry(net, 0, 1, 0);
         Check.due("one is gone, three have other answers", net.table.broken(), 4);
         Net twice = new Net(3);
         twice.ask(0, Net.ADD, 0, 5);
@@ -72,11 +50,11 @@ final class BrokenTest {
         Check.due("ACCEPTED where it comes a second time", twice.client(0) + " " + twice.table.broken(),
             "2 slot 2 view 0/1 answer 0 0");
         twice.ask(1, Net.ADD, 0, 7).settle();
-        change(twice, 0, 1, 2);
+        Behind.putEntry(twice, 0, 1, 2);
         Check.due("it is there, but with another answer; so has the other one", twice.table.broken(), 2);
     }
 
-    private static void notExecutedIsNoOtherAnswer() throws ReflectiveOperationException {
+    private static void notExecutedIsNoOtherAnswer() {
         Net net = new Net(3);
         net.ask(0, Net.ADD, 0, 5).loseAll();
         net.table.again(0);
@@ -84,17 +62,17 @@ final class BrokenTest {
         net.ask(0, Net.ADD, 0, 6).settle();
         net.ask(1, Net.PUT, 0, 9).settle();
         Check.due("before", net.log(0) + " " + net.table.broken(), "- 0.1 0.2 1.1 0");
-        change(net, 0, 1, 3);
+        Behind.putEntry(net, 0, 1, 3);
         Check.due("all have other answers", net.table.broken(), 3);
-        change(net, 0, 1, 2);
+        Behind.putEntry(net, 0, 1, 2);
         Check.due("the first is not executed now, the two others with other answers", net.table.broken(), 2);
     }
 
-    private static void whoCounts() throws ReflectiveOperationException {
+    private static void whoCounts() {
         Net net = four();
-        change(net, 1, 1, 0);
+        Behind.putEntry(net, 1, 1, 0);
         Check.due("one that does not lead", net.table.broken(), 0);
-        change(net, 0, 4, 0);
+        Behind.putEntry(net, 0, 4, 0);
         net.table.down(0);
         Check.due("a leader that is DOWN", net.table.broken(), 1);
         net.table.up(0);
@@ -111,11 +89,11 @@ final class BrokenTest {
         gap.ask(0, Net.GET, 0, 0).loseAll();
         gap.table.again(0);
         gap.deliver("STAMPED", SEQ, 0);
-        change(gap, 0, 4, 0);
+        Behind.putEntry(gap, 0, 4, 0);
         Check.due("a leader in GAP", gap.table.replica(0, 1) * 10 + gap.table.broken(), 11);
     }
 
-    private static void anOldLeaderDoesNotCount() throws ReflectiveOperationException {
+    private static void anOldLeaderDoesNotCount() {
         Net net = new Net(3);
         net.ask(0, Net.PUT, 0, 1).settle();
         net.table.suspect(2);
@@ -125,9 +103,9 @@ final class BrokenTest {
         Check.due("ACCEPTED in the second view", net.client(1), "2 slot 2 view 1/1 answer 1");
         Check.due("the old leader is in the first", net.state(0), "NORMAL 0/1 base 0 log 1 point 0 held 0 last 0/1 synced 0");
         Check.due("it need not have it", net.table.broken(), 0);
-        change(net, 0, 1, 0);
+        Behind.putEntry(net, 0, 1, 0);
         Check.due("but the first one", net.table.broken(), 1);
-        change(net, 1, 1, 0);
+        Behind.putEntry(net, 1, 1, 0);
         Check.due("each is counted once, the second by its answer", net.table.broken(), 2);
     }
 }

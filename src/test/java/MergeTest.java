@@ -89,30 +89,20 @@ final class MergeTest {
      */
     private static Net aSessionThatOneMissed() {
         Net net = new Net(5);
-        net.ask(0, Net.PUT, 0, 1);
-        for (int r = 0; r < 5; r++) {
-            net.deliver("STAMPED", SEQ, r);
-        }
-        net.loseAll();
+        net.ask(0, Net.PUT, 0, 1).stamped(1, 0, 1, 2, 3, 4).loseAll();
         net.table.sync(0);
         net.deliver("SYNC", 0, 2).deliver("SYNC", 0, 1).deliver("SYNC REPLY", 1, 0).deliver("SYNC REPLY", 2, 0);
         net.deliver("POINT", 0, 2).loseAll();
-        net.ask(1, Net.PUT, 0, 2).ask(2, Net.PUT, 0, 3);
-        net.deliver("STAMPED", SEQ, 4).deliver("STAMPED", SEQ, 4).loseAll();
+        net.ask(1, Net.PUT, 0, 2).ask(2, Net.PUT, 0, 3).stamped(2, 4).stamped(3, 4).loseAll();
         net.table.install();
-        net.ask(3, Net.PUT, 0, 4);
-        for (int r = 0; r < 4; r++) {
-            net.deliver("STAMPED", SEQ, r);
-        }
+        net.ask(3, Net.PUT, 0, 4).stamped(4, 0, 1, 2, 3);
         net.deliver("TURNED", 1, 0).deliver("TURNED", 2, 0);
         for (int r = 1; r < 4; r++) {
             net.deliver("START", 0, r);
         }
-        net.loseAll();
-        net.table.again(3);
-        net.deliver("STAMPED", SEQ, 0);
+        net.loseAll().again(3).stamped(5, 0);
         for (int r = 1; r < 4; r++) {
-            net.deliver("GAP COMMIT", 0, r).deliver("GAP REPLY", r, 0).deliver("STAMPED", SEQ, r);
+            net.deliver("GAP COMMIT", 0, r).deliver("GAP REPLY", r, 0).stamped(5, r);
         }
         return net.loseAll();
     }

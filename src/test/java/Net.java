@@ -1,3 +1,7 @@
+import java.util.ArrayList;
+import java.util.Arrays;
+import java.util.List;
+
 /** A table under test: its messages named by kind, sender and receiver, its states told in a line. */
 final class Net {
     static final int GET = 0;
@@ -5,38 +9,37 @@ final class Net {
     static final int ADD = 2;
     /** As a sender: the sequencer. */
     static final int SEQUENCER = -1;
-    private static final String[] KINDS = {"STAMPED", "LOOKUP", "FOUND", "GAP COMMIT", "GAP REPLY", "SYNC",
-        "SYNC REPLY", "POINT", "TURN", "TURNED", "START", "REPLY"};
+    private static final int NAMED = 10;
     private static final String[] STATUS = {"NORMAL", "GAP", "CHANGE"};
 
-    final OrderedTable table;
+    final Table table;
     final int size;
+    // Of each stamping by ask and again the number of its first message.
+    private final List<Integer> stampings = new ArrayList<>();
 
     /** Of 3, 5 or 7 replicas. */
     Net(int size) {
         this.size = size;
-        table = new OrderedTable((size - 3) / 2);
-    }
-
-    private String named(int k) {
-        return KINDS[table.message(k, 1)] + " " + (table.message(k, 2) < 0 ? "*" : table.message(k, 2))
-            + ">" + table.message(k, 3);
+        table = new Table((size - 3) / 2);
     }
 
     /** The messages in the air, the oldest first. */
     String air() {
         StringBuilder all = new StringBuilder();
-        for (int k = 0; k < table.about(0); k++) {
-            all.append(k == 0 ? "" : ", ").append(named(k));
+        int lying = table.air().size();
+        for (int k = 0; k < lying; k++) {
+            all.append(k == 0 ? "" : ", ").append(table.name(k));
         }
         return all.toString();
     }
 
-    private int numberOf(String kind, int from, int to) {
+    /** The number of the oldest message of that kind, sender and receiver. */
+    int numberOf(String kind, int from, int to) {
         String name = kind + " " + (from < 0 ? "*" : from) + ">" + to;
-        for (int k = 0; k < table.about(0); k++) {
-            if (named(k).equals(name)) {
-                return table.message(k, 0);
+        List<Integer> numbers = table.air();
+        for (int k = 0; k < numbers.size(); k++) {
+            if (table.kind(k).equals(kind) && table.name(k).equals(name)) {
+                return numbers.get(k);
             }
         }
         Check.due("the air has " + name, air(), "it");
@@ -61,16 +64,27 @@ final class Net {
     }
 
     Net loseAll() {
-        while (table.about(0) > 0) {
-            table.lose(table.message(0, 0));
+        for (int number : table.air()) {
+            table.lose(number);
+        }
+        return this;
+    }
+
+    /** Loses all but the messages of these numbers. */
+    Net loseAllBut(int... kept) {
+        for (int number : table.air()) {
+            if (Arrays.stream(kept).noneMatch(k -> k == number)) {
+                table.lose(number);
+            }
         }
         return this;
     }
 
     Net loseAll(String kind) {
-        for (int k = table.about(0) - 1; k >= 0; k--) {
-            if (KINDS[table.message(k, 1)].equals(kind)) {
-                table.lose(table.message(k, 0));
+        List<Integer> numbers = table.air();
+        for (int k = numbers.size() - 1; k >= 0; k--) {
+            if (table.kind(k).equals(kind)) {
+                table.lose(numbers.get(k));
             }
         }
         return this;
@@ -85,22 +99,72 @@ final class Net {
 
     /** Delivers all, and what comes by it. */
     Net settle() {
-        for (int i = 0; i < 1000 && table.about(0) > 0; i++) {
-            table.flow(40);
+        for (int i = 0; i < 100 && table.flow(40) == 40; i++) {
+            continue;
         }
         return this;
     }
 
     /** A client's next request, delivered to nobody yet. */
     Net ask(int client, int kind, int key, int word) {
+        stampings.add(table.about(1));
         table.request(client, kind, key, word);
         return this;
+    }
+
+    /** The open request of a client is stamped again, delivered to nobody yet. */
+    Net again(int client) {
+        stampings.add(table.about(1));
+        table.again(client);
+        return this;
+    }
+
+    /** Delivers what the k-th ask or again (1 on) has stamped to these replicas. */
+    Net stamped(int k, int... replicas) {
+        for (int r : replicas) {
+            table.deliver(stampings.get(k - 1) + r);
+        }
+        return this;
+    }
+
+    /** All replicas take so many entries more, which are accepted requests; the air is to be empty. */
+    Net grow(int entries) {
+        for (int left = entries; left > 0; left -= 4) {
+            int now = Math.min(4, left);
+            int first = table.about(1);
+            for (int c = 0; c < now; c++) {
+                stampings.add(first + c * size);
+                table.request(c, ADD, 7, 1);
+            }
+            for (int messages = 2 * size * now; messages > 0; messages -= 40) {
+                table.flow(Math.min(40, messages));
+            }
+        }
+        return this;
+    }
+
+    /** A replica that is in view 0/1 turns to that one, of session 1 or 2; what it sends is lost. */
+    Net toView(int replica, int lead, int session) {
+        if (session == 2) {
+            if (table.about(4) == 1) {
+                table.install();
+                ask(3, GET, 0, 0);
+            } else {
+                again(3);
+            }
+            stamped(stampings.size(), replica);
+        }
+        for (int i = 0; i < lead; i++) {
+            table.suspect(replica);
+        }
+        return loseAll();
     }
 
     /** The log as client.number for a request and - for a NOTHING. */
     String log(int replica) {
         StringBuilder all = new StringBuilder();
-        for (int slot = 1; slot <= table.replica(replica, 5); slot++) {
+        int length = table.replica(replica, 5);
+        for (int slot = 1; slot <= length; slot++) {
             all.append(slot == 1 ? "" : " ");
             if (table.entry(replica, slot, 0) == 0) {
                 all.append('-');
@@ -127,5 +191,28 @@ final class Net {
     String client(int client) {
         return table.client(client, 1) + " slot " + table.client(client, 2) + " view "
             + table.client(client, 3) + "/" + table.client(client, 4) + " answer " + table.answer(client);
+    }
+
+    /** All that can be asked; the names of the latest messages only, for the calls of an object are numbered. */
+    String everything() {
+        StringBuilder all = new StringBuilder();
+        for (int r = 0; r < size; r++) {
+            all.append(table.replica(r, 0)).append(' ').append(state(r)).append(" [").append(log(r)).append("] words");
+            for (int key = 0; key < 8; key++) {
+                all.append(' ').append(table.word(r, key));
+            }
+            all.append('\n');
+        }
+        for (int c = 0; c < 4; c++) {
+            all.append(table.client(c, 0)).append(' ').append(client(c)).append('\n');
+        }
+        for (int what = 0; what < 7; what++) {
+            all.append(table.about(what)).append(' ');
+        }
+        List<Integer> numbers = table.air();
+        for (int k = 0; k < numbers.size(); k++) {
+            all.append(numbers.get(k)).append(' ').append(k < numbers.size() - NAMED ? "" : table.name(k)).append(' ');
+        }
+        return all.append(table.broken()).toString();
     }
 }

@@ -64,7 +64,7 @@ final class PromisesTest {
 
     private static void promise2Request() {
         Net net = new Net(3);
-        OrderedTable t = net.table;
+        Table t = net.table;
         Check.due("a client's first request", t.request(2, Net.ADD, 7, -9), 1);
         Check.due("a request is stamped", net.air(), "STAMPED *>0, STAMPED *>1, STAMPED *>2");
         Check.due("COUNT", t.about(5), 1);
@@ -87,7 +87,7 @@ final class PromisesTest {
 
     private static void promise2RequestRefused() {
         Net net = new Net(3);
-        OrderedTable t = net.table;
+        Table t = net.table;
         for (int c : new int[] {-1, 4, MIN, MAX}) {
             Check.raises("request of client " + c, OUTSIDE, () -> t.request(c, 0, 0, 0));
             Check.raises("request of client " + c + " of no kind", OUTSIDE, () -> t.request(c, 9, 0, 0));
@@ -110,7 +110,7 @@ final class PromisesTest {
 
     private static void promise3Again() {
         Net net = new Net(3);
-        OrderedTable t = net.table;
+        Table t = net.table;
         for (int c : new int[] {-1, 4, MIN, MAX}) {
             Check.raises("again of client " + c, OUTSIDE, () -> t.again(c));
         }
@@ -134,7 +134,7 @@ final class PromisesTest {
 
     private static void promise4Deliver() {
         Net net = new Net(3);
-        OrderedTable t = net.table;
+        Table t = net.table;
         for (int number : new int[] {0, -1, 1, MIN, MAX}) {
             Check.raises("deliver(" + number + ") in a new object", BAD, () -> t.deliver(number));
         }
@@ -156,7 +156,7 @@ final class PromisesTest {
 
     private static void promise5Lose() {
         Net net = new Net(3);
-        OrderedTable t = net.table;
+        Table t = net.table;
         for (int number : new int[] {0, -1, MIN, MAX}) {
             Check.raises("lose(" + number + ") in a new object", BAD, () -> t.lose(number));
         }
@@ -177,7 +177,7 @@ final class PromisesTest {
 
     private static void promise6Flow() {
         Net net = new Net(3);
-        OrderedTable t = net.table;
+        Table t = net.table;
         for (int n : new int[] {-1, 41, MIN, MAX}) {
             Check.raises("flow(" + n + ")", BAD, () -> t.flow(n));
         }
@@ -204,7 +204,7 @@ final class PromisesTest {
 
     private static void promise7Down() {
         Net net = new Net(5);
-        OrderedTable t = net.table;
+        Table t = net.table;
         for (int r : new int[] {-1, 5, MIN, MAX}) {
             Check.raises("down(" + r + ")", OUTSIDE, () -> t.down(r));
         }
@@ -231,7 +231,7 @@ final class PromisesTest {
 
     private static void downHoldsNothing() {
         Net net = new Net(3);
-        OrderedTable t = net.table;
+        Table t = net.table;
         net.ask(0, Net.PUT, 0, 4).settle();
         t.sync(0);
         net.settle();
@@ -287,7 +287,7 @@ final class PromisesTest {
 
     private static void promise8Up() {
         Net net = new Net(3);
-        OrderedTable t = net.table;
+        Table t = net.table;
         for (int r : new int[] {-1, 3, MIN, MAX}) {
             Check.raises("up(" + r + ")", OUTSIDE, () -> t.up(r));
         }
@@ -303,7 +303,7 @@ final class PromisesTest {
 
     private static void promise9Suspect() {
         Net net = new Net(5);
-        OrderedTable t = net.table;
+        Table t = net.table;
         for (int r : new int[] {-1, 5, MIN, MAX}) {
             Check.raises("suspect(" + r + ")", OUTSIDE, () -> t.suspect(r));
         }
@@ -330,7 +330,7 @@ final class PromisesTest {
 
     private static void promise10Nudge() {
         Net net = new Net(5);
-        OrderedTable t = net.table;
+        Table t = net.table;
         for (int r : new int[] {-1, 5, MIN, MAX}) {
             Check.raises("nudge(" + r + ")", OUTSIDE, () -> t.nudge(r));
         }
@@ -370,7 +370,7 @@ final class PromisesTest {
 
     private static void nudgeInChange() {
         Net net = new Net(5);
-        OrderedTable t = net.table;
+        Table t = net.table;
         t.suspect(2);
         net.loseAll();
         Check.due("nudge in CHANGE", t.nudge(2), 5);
@@ -393,7 +393,7 @@ final class PromisesTest {
 
     private static void promise11Sync() {
         Net net = new Net(5);
-        OrderedTable t = net.table;
+        Table t = net.table;
         for (int r : new int[] {-1, 5, MIN, MAX}) {
             Check.raises("sync(" + r + ")", OUTSIDE, () -> t.sync(r));
         }
@@ -426,7 +426,7 @@ final class PromisesTest {
 
     private static void promise12Fail() {
         Net net = new Net(3);
-        OrderedTable t = net.table;
+        Table t = net.table;
         net.ask(0, Net.PUT, 0, 1);
         Check.due("fail", t.fail() ? 1 : 0, 1);
         Check.due("fail of one that is not up", t.fail() ? 1 : 0, 0);
@@ -438,7 +438,7 @@ final class PromisesTest {
 
     private static void promise13Install() {
         Net net = new Net(3);
-        OrderedTable t = net.table;
+        Table t = net.table;
         net.ask(0, Net.PUT, 0, 1).ask(1, Net.PUT, 0, 2).settle();
         Check.due("install in the place of one that is up", t.install(), 2);
         Check.due("SESSION, COUNT", t.about(4) * 10 + t.about(5), 20);
@@ -459,7 +459,7 @@ final class PromisesTest {
 
     private static void promise14Replica() {
         Net net = new Net(3);
-        OrderedTable t = net.table;
+        Table t = net.table;
         net.ask(0, Net.PUT, 0, 1).settle();
         t.sync(0);
         net.settle();
@@ -491,7 +491,7 @@ final class PromisesTest {
 
     private static void promise15Entry() {
         Net net = new Net(3);
-        OrderedTable t = net.table;
+        Table t = net.table;
         net.ask(3, Net.ADD, 6, -8).settle();
         net.ask(1, Net.PUT, 2, 5).ask(2, Net.GET, 4, 77);
         net.lose("STAMPED", -1, 0).deliver("STAMPED", -1, 0).deliver("GAP COMMIT", 0, 2).settle();
@@ -517,7 +517,7 @@ final class PromisesTest {
 
     private static void promise16Word() {
         Net net = new Net(3);
-        OrderedTable t = net.table;
+        Table t = net.table;
         net.ask(0, Net.PUT, 3, MAX).ask(1, Net.ADD, 3, 2).ask(2, Net.ADD, 5, 9).ask(3, Net.GET, 3, 44).settle();
         Check.due("PUT and ADD, that runs over", t.word(0, 3), MIN + 1);
         Check.due("ADD alone", t.word(0, 5), 9);
@@ -547,7 +547,7 @@ final class PromisesTest {
 
     private static void promise17And18Client() {
         Net net = new Net(3);
-        OrderedTable t = net.table;
+        Table t = net.table;
         net.ask(2, Net.PUT, 0, 6).settle();
         t.suspect(1);
         net.settle();
@@ -573,7 +573,7 @@ final class PromisesTest {
 
     private static void promise19About() {
         Net net = new Net(3);
-        OrderedTable t = net.table;
+        Table t = net.table;
         net.ask(0, Net.PUT, 0, 6).ask(1, Net.GET, 0, 0);
         t.lose(5);
         t.flow(3);
@@ -596,7 +596,7 @@ final class PromisesTest {
 
     private static void promise20Message() {
         Net net = new Net(3);
-        OrderedTable t = net.table;
+        Table t = net.table;
         Check.due("of an empty air", t.message(0, 0), -1);
         net.ask(3, Net.PUT, 0, 6);
         t.deliver(1);

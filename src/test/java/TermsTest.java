@@ -150,13 +150,11 @@ final class TermsTest {
     }
 
     private static void theHundredthIsTaken() {
-        Net net = new Net(3);
-        net.ask(0, Net.ADD, 0, 1);
-        for (int i = 0; i < 102; i++) {
-            net.deliver("STAMPED", SEQ, 0).deliver("STAMPED", SEQ, 1).loseAll("STAMPED");
-            Check.due("REPLYs", net.air(), i < 100 ? "REPLY 0>0, REPLY 1>0" : "");
-            net.loseAll();
-            net.table.again(0);
+        Net net = new Net(3).grow(98).ask(0, Net.ADD, 0, 1);
+        for (int k = 99; k <= 102; k++) {
+            net.stamped(k, 0, 1).loseAll("STAMPED");
+            Check.due("REPLYs", net.air(), k <= 100 ? "REPLY 0>0, REPLY 1>0" : "");
+            net.loseAll().again(0);
         }
         Check.due("100 are taken", net.state(0), "NORMAL 0/1 base 0 log 100 point 0 held 2 last 0/1 synced 0");
         Check.due("of another one too", net.state(1), "NORMAL 0/1 base 0 log 100 point 0 held 2 last 0/1 synced 0");
@@ -185,14 +183,8 @@ final class TermsTest {
     }
 
     private static void aFullLogTakesNoMore() {
-        Net net = new Net(3);
-        net.ask(0, Net.PUT, 0, 1).deliver("STAMPED", SEQ, 0).deliver("STAMPED", SEQ, 1).loseAll();
-        for (int i = 0; i < 97; i++) {
-            net.table.again(0);
-            net.deliver("STAMPED", SEQ, 0).deliver("STAMPED", SEQ, 1).loseAll();
-        }
-        net.table.again(0);
-        net.deliver("STAMPED", SEQ, 0).loseAll();
+        Net net = new Net(3).grow(97).ask(0, Net.PUT, 0, 1);
+        net.stamped(98, 0, 1).again(0).stamped(99, 0).loseAll();
         Check.due("99 and 98 entries", net.table.replica(0, 5) * 100 + net.table.replica(1, 5), 9998);
         net.table.again(0);
         net.loseAll();
@@ -713,28 +705,28 @@ final class TermsTest {
     }
 
     private static void placesAreForgotten() {
-        Net net = new Net(3);
-        OrderedTable t = net.table;
-        net.ask(0, Net.PUT, 0, 1);
+        Net net = new Net(3).ask(0, Net.PUT, 0, 1);
+        Table t = net.table;
         for (int i = 0; i < 65; i++) {
             if (i > 0) {
                 t.again(0);
             }
-            net.deliver("STAMPED", SEQ, 1).deliver("REPLY", 1, 0).lose("STAMPED", SEQ, 2);
+            t.deliver(4 * i + 1);
+            t.deliver(4 * i + 3);
+            t.lose(4 * i + 2);
         }
-        Check.due("65 places have come", net.log(1).length() + " " + t.about(0), "259 65");
-        net.deliver("STAMPED", SEQ, 0);
-        int first = t.message(64, 0);
-        net.deliver("STAMPED", SEQ, 0).deliver("STAMPED", SEQ, 0);
-        int third = t.message(64, 0);
-        t.deliver(first);
+        Check.due("65 places have come", t.replica(1, 5) + " " + t.about(0), "65 65");
+        net.stamped(1, 0);
+        t.deliver(4);
+        t.deliver(8);
+        Check.due("the leader's REPLYs of slots 1 to 3", t.about(1) + " " + t.message(64, 0), "263 262");
+        t.deliver(260);
         Check.due("the first one is forgotten", t.client(0, 1), 1);
-        t.deliver(t.message(62, 0));
+        t.deliver(261);
         Check.due("with it coming again the second", t.client(0, 1), 1);
-        net.deliver("STAMPED", SEQ, 0);
-        Check.due("a REPLY of slot 3 and of slot 4", t.message(61, 1) + t.message(62, 1), 22);
-        t.lose(third);
-        t.deliver(t.message(61, 0));
+        t.lose(262);
+        t.deliver(12);
+        t.deliver(263);
         Check.due("the fourth is there", net.client(0), "2 slot 4 view 0/1 answer 0");
         net.settle();
         net.ask(0, Net.GET, 0, 0).settle();
