@@ -4,7 +4,29 @@ import java.lang.reflect.Field;
 
 /** Changes a table behind its back, to bring about what the document speaks of and no calls can bring about. */
 final class Behind {
+    private static final String[][] LAYOUT = {
+        {"", "replicas", "air", "accepted"},
+        {"Replica", "log", "held", "status", "lastNormal", "base", "point", "synced"},
+        {"Log", "entries", "length"}, {"Held", "slots"}, {"Air", "messages"}, {"Message", "position", "answer", "to"},
+        {"AcceptedOnes", "requests", "views", "slots", "answers", "kept", "next", "total"}};
+
     private Behind() { }
+
+    /** Whether the class is laid out as it was when this was written; if not, no promise is broken by that. */
+    static boolean fits() {
+        try {
+            for (String[] part : LAYOUT) {
+                Class<?> c = Class.forName(part[0].isEmpty() ? "OrderedTable" : "OrderedTable$" + part[0]);
+                for (int i = 1; i < part.length; i++) {
+                    c.getDeclaredField(part[i]);
+                }
+            }
+            return true;
+        } catch (ReflectiveOperationException e) {
+            System.out.println("PASSED OVER: the class is laid out in another way (" + e.getMessage() + ")");
+            return false;
+        }
+    }
 
     private static Field open(Object of, String name) {
         try {

@@ -6,6 +6,9 @@ final class BrokenTest {
     private static final int SEQ = Net.SEQUENCER;
 
     public static void main(String[] args) {
+        if (!Behind.fits()) {
+            return;
+        }
         anotherEntry();
         anotherAnswer();
         notExecutedIsNoOtherAnswer();
@@ -24,6 +27,7 @@ final class BrokenTest {
     }
 
     private static void anotherEntry() {
+        Check.says("and it has not that request in that slot");
         Net net = four();
         Behind.putEntry(net, 0, 4, 0);
         Check.due("a NOTHING instead", net.table.broken(), 1);
@@ -40,6 +44,7 @@ final class BrokenTest {
     }
 
     private static void anotherAnswer() {
+        Check.says("or has executed it, where it stands in its log first, with another ANSWER");
         Net net = four();
         Behind.putEntry(net, 0, 1, 0);
         Check.due("one is gone, three have other answers", net.table.broken(), 4);
@@ -69,6 +74,7 @@ final class BrokenTest {
     }
 
     private static void whoCounts() {
+        Check.says("(Replicas that are DOWN count, too.)");
         Net net = four();
         Behind.putEntry(net, 1, 1, 0);
         Check.due("one that does not lead", net.table.broken(), 0);
@@ -94,6 +100,7 @@ final class BrokenTest {
     }
 
     private static void anOldLeaderDoesNotCount() {
+        Check.says("its view is that of the ACCEPTED one, or that is behind it");
         Net net = new Net(3);
         net.ask(0, Net.PUT, 0, 1).settle();
         net.table.suspect(2);

@@ -28,6 +28,7 @@ final class EdgesOfCallsTest {
         downOfF();
         upOfNone();
         suspectOfNone();
+        suspectOfOneDown();
         suspectInEachStatus();
         nudgeOfNone();
         nudgeOfNothing();
@@ -50,6 +51,8 @@ final class EdgesOfCallsTest {
         answerOutside();
         aboutOutside();
         messageOutside();
+        messageKinds();
+        none();
         brokenOfNone();
         brokenOfAChange();
         brokenOfAnOldLeader();
@@ -339,6 +342,19 @@ final class EdgesOfCallsTest {
             t.suspect(0);
             Check.due(n + ": up again", t.replica(0, 2), 2);
         }
+    }
+
+    private static void suspectOfOneDown() {
+        Check.says("it TURNS to (L + 1, S). IndexOutOfBoundsException: there is none such. IllegalStateException: it is DOWN.");
+        Net net = new Net(3);
+        net.table.down(0);
+        Check.raises("the leader, DOWN", STATE, () -> net.table.suspect(0));
+        Check.due("nothing is sent", net.table.about(1), 0);
+        Check.due("its view stays", net.state(0), "NORMAL 0/1 base 0 log 0 point 0 held 0 last 0/1 synced 0");
+        net.table.suspect(1);
+        net.table.up(0);
+        net.table.suspect(0);
+        Check.due("up again", net.table.replica(0, 2), 1);
     }
 
     private static void suspectInEachStatus() {
@@ -687,6 +703,14 @@ final class EdgesOfCallsTest {
         for (int what : new int[] {-1, 7, 8, MIN, MAX}) {
             Check.due("about(" + what + ")", net.table.about(what), -1);
         }
+        Check.says("How many messages lie in the air (what = 0), were sent in all (1), were lost in any way (2); 1 if the sequencer is up, else 0 (3), its SESSION (4), COUNT (5); requests that were ACCEPTED (6).");
+        net.table.install();
+        net.ask(1, Net.PUT, 0, 5).again(1).table.fail();
+        net.table.lose(6);
+        int[] then = {5, 12, 1, 0, 2, 2, 1};
+        for (int what = 0; what <= 6; what++) {
+            Check.due("then about(" + what + ")", net.table.about(what), then[what]);
+        }
         Check.says("were lost in any way (2)");
         Net lost = new Net(3).ask(0, Net.PUT, 0, 5);
         lost.table.lose(0);
@@ -730,6 +754,38 @@ final class EdgesOfCallsTest {
         }
         Check.due("the last of 200", full.table.message(199, 0) * 10 + full.table.message(199, 3), 1991);
         Check.due("beyond 200", full.table.message(200, 0), -1);
+    }
+
+    private static void kind(Net net, String name, int kind, int from, int to) {
+        int k = net.table.air().indexOf(net.numberOf(name, from, to));
+        Check.due(name + ", KIND", net.table.message(k, 1), kind);
+        Check.due(name + ", from", net.table.message(k, 2), from);
+        Check.due(name + ", to", net.table.message(k, 3), to);
+    }
+
+    private static void messageKinds() {
+        Check.says("KIND (1: 0 STAMPED, 1 LOOKUP, 2 FOUND, 3 GAP COMMIT, 4 GAP REPLY, 5 SYNC, 6 SYNC REPLY, 7 POINT, 8 TURN, 9 TURNED, 10 START, 11 REPLY), from (2; a replica, NONE by the sequencer), to (3; a replica, of REPLY a client).");
+        Net net = new Net(3).ask(3, Net.PUT, 0, 5).ask(1, Net.PUT, 0, 5).stamped(1, 0).stamped(2, 1);
+        kind(net, "STAMPED", 0, -1, 2);
+        kind(net, "REPLY", 11, 0, 3);
+        kind(net, "LOOKUP", 1, 1, 0);
+        kind(net.deliver("LOOKUP", 1, 0), "FOUND", 2, 0, 1);
+        net.deliver("FOUND", 0, 1).table.sync(0);
+        kind(net, "SYNC", 5, 0, 2);
+        kind(net.deliver("SYNC", 0, 1), "SYNC REPLY", 6, 1, 0);
+        kind(net.deliver("SYNC REPLY", 1, 0), "POINT", 7, 0, 2);
+        Net gap = new Net(3).ask(0, Net.PUT, 0, 5).again(0).stamped(2, 0);
+        kind(gap, "GAP COMMIT", 3, 0, 1);
+        kind(gap.deliver("GAP COMMIT", 0, 2), "GAP REPLY", 4, 2, 0);
+        gap.table.suspect(2);
+        kind(gap, "TURN", 8, 2, 1);
+        kind(gap, "TURNED", 9, 2, 1);
+        kind(gap.deliver("TURNED", 2, 1), "START", 10, 1, 0);
+    }
+
+    private static void none() {
+        Check.says("The constants: `NONE = -1`: None.");
+        Check.due("NONE", OrderedTable.NONE, -1);
     }
 
     private static void brokenOfNone() {

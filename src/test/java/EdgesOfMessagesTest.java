@@ -21,6 +21,7 @@ final class EdgesOfMessagesTest {
         oldGapReply();
         oldFoundAndGapCommit();
         stampedOfAnotherSession();
+        stampedOfAnEarlierSession();
         stampedBehindTheLog();
         stampedAboveHundred();
         stampedBesideEight();
@@ -37,6 +38,7 @@ final class EdgesOfMessagesTest {
         gapRepliesOfF();
         gapReplyOfItsLastSlot();
         syncOfWhatItHas();
+        syncReplacesTheFirstM();
         syncOfNothing();
         syncedOrMore();
         syncRepliesOfF();
@@ -112,21 +114,30 @@ final class EdgesOfMessagesTest {
 
     private static void mergesTheLongest() {
         Check.says("the log is as long as the longest of theirs");
-        String[] logs = {"", "0.1", "0.1 1.1"};
         for (int own = 0; own <= 2; own++) {
-            for (int other = 0; other <= 2; other++) {
-                Net net = new Net(3).ask(0, Net.PUT, 0, 1).ask(1, Net.PUT, 0, 2);
-                for (int k = 1; k <= own; k++) {
-                    net.stamped(k, 1);
-                }
-                for (int k = 1; k <= other; k++) {
-                    net.stamped(k, 2);
-                }
-                net.table.suspect(2);
-                net.deliver("TURNED", 2, 1);
-                Check.due("of " + own + " and " + other, net.log(1), logs[Math.max(own, other)]);
+            for (int others = 0; others <= 2; others++) {
+                longest(3, own, others, 0);
+                longest(3, own, others, 2);
+                longest(5, own, others, 0, 4);
             }
         }
+    }
+
+    /** Replica 1 has so many entries, the last one of the others so many, the ones before it none. */
+    private static void longest(int n, int own, int last, int... others) {
+        Net net = new Net(n).ask(0, Net.PUT, 0, 1).ask(1, Net.PUT, 0, 2);
+        for (int k = 1; k <= own; k++) {
+            net.stamped(k, 1);
+        }
+        for (int k = 1; k <= last; k++) {
+            net.stamped(k, others[others.length - 1]);
+        }
+        for (int r : others) {
+            net.table.suspect(r);
+            net.deliver("TURNED", r, 1);
+        }
+        String[] logs = {"", "0.1", "0.1 1.1"};
+        Check.due("of " + n + " replicas: " + own + " and " + last, net.log(1), logs[Math.max(own, last)]);
     }
 
     private static void mergesAFullLog() {
@@ -321,6 +332,22 @@ final class EdgesOfMessagesTest {
         Check.due("its own, NORMAL", net.state(0), "NORMAL 0/1 base 0 log 1 point 0 held 0 last 0/1 synced 0");
     }
 
+    private static void stampedOfAnEarlierSession() {
+        Check.says("Else, if s is S");
+        Net net = new Net(3).ask(0, Net.PUT, 0, 1).again(0).again(0);
+        net.table.install();
+        net.again(0).again(0).stamped(4, 0).deliver("TURN", 0, 1).deliver("TURNED", 1, 0).deliver("START", 0, 2);
+        Check.due("it is NORMAL in session 2", net.state(2), "NORMAL 0/2 base 0 log 0 point 0 held 0 last 0/2 synced 0");
+        int sent = net.table.about(1);
+        net.stamped(1, 2).stamped(3, 2);
+        Check.due("numbers 1 and 3 of session 1", net.state(2), "NORMAL 0/2 base 0 log 0 point 0 held 0 last 0/2 synced 0");
+        Check.due("nothing is sent", net.table.about(1), sent);
+        net.stamped(5, 2);
+        Check.due("number 2 of its own", net.state(2), "NORMAL 0/2 base 0 log 0 point 0 held 1 last 0/2 synced 0");
+        net.stamped(4, 2);
+        Check.due("and number 1", net.state(2), "NORMAL 0/2 base 0 log 2 point 0 held 0 last 0/2 synced 0");
+    }
+
     private static void stampedBehindTheLog() {
         Check.says("the slot is behind its log (above 100, too)");
         Net net = new Net(3).ask(0, Net.PUT, 0, 1).ask(1, Net.PUT, 0, 2).ask(2, Net.PUT, 0, 3).ask(3, Net.PUT, 0, 4);
@@ -473,6 +500,10 @@ final class EdgesOfMessagesTest {
         Net takes = gapOfSlotTwo().stamped(1, 1).stamped(3, 1).loseAll("REPLY").loseAll("LOOKUP").deliver("GAP COMMIT", 0, 1);
         Check.due("what was HELD behind it", takes.log(1), "0.1 - 2.1");
         Check.due("GAP REPLY comes first", takes.loseAll("STAMPED").air(), "GAP COMMIT 0>2, GAP REPLY 1>0, REPLY 1>2");
+        Net stays = gapOfSlotTwo().stamped(1, 1).stamped(2, 1).again(1).stamped(4, 1).loseAll("REPLY").loseAll("LOOKUP");
+        stays.loseAll("STAMPED").deliver("GAP COMMIT", 0, 1);
+        Check.due("in the first one it does not: number 4 is HELD", stays.log(1) + " " + stays.table.replica(1, 7), "0.1 - 1");
+        Check.due("and nothing is asked for", stays.air(), "GAP COMMIT 0>2, GAP REPLY 1>0");
         Net beyond = gapOfSlotTwo().loseAll("STAMPED").deliver("GAP COMMIT", 0, 1);
         Check.due("the one behind the next", beyond.log(1) + beyond.air(), "GAP COMMIT 0>2");
     }
@@ -556,6 +587,22 @@ final class EdgesOfMessagesTest {
         change.table.suspect(1);
         change.loseAll("TURN").deliver("SYNC", 0, 1);
         Check.due("in CHANGE", change.air(), "SYNC 0>2");
+    }
+
+    private static void syncReplacesTheFirstM() {
+        Check.says("these are its first m");
+        String[] logs = {"0.1 1.1", "0.1 - 2.1", "0.1 - 2.1 3.1"};
+        for (int has = 2; has <= 4; has++) {
+            Net net = new Net(3).ask(0, Net.PUT, 0, 1).ask(1, Net.PUT, 0, 2).ask(2, Net.PUT, 0, 3).ask(3, Net.PUT, 0, 4);
+            for (int k = 1; k <= has; k++) {
+                net.stamped(k, 1);
+            }
+            net.stamped(1, 0, 2).stamped(3, 0).deliver("GAP COMMIT", 0, 2).deliver("GAP REPLY", 2, 0);
+            Check.due("the leader's", net.log(0), "0.1 - 2.1");
+            net.table.sync(0);
+            net.deliver("SYNC", 0, 1);
+            Check.due("m 3 and " + has + " entries", net.log(1), logs[has - 2]);
+        }
     }
 
     private static void syncOfNothing() {

@@ -26,6 +26,8 @@ final class EdgesOfTermsTest {
         sequencerNotUp();
         viewAtFirst();
         leaderIsModulo();
+        behindAnotherOne();
+        joined();
         replicaAtFirst();
         slotsOfNumbers();
         slotsOfALaterSession();
@@ -310,6 +312,35 @@ final class EdgesOfTermsTest {
         }
     }
 
+    /** Replica 1 of five is in view v, and a TURN to view w comes: the view in which it is then. */
+    private static String turned(int[] v, int[] w) {
+        Net net = new Net(5).toView(1, v[0], v[1]).toView(2, w[0], w[1]);
+        net.table.nudge(2);
+        net.deliver("TURN", 2, 1);
+        return net.table.replica(1, 2) + "/" + net.table.replica(1, 3);
+    }
+
+    private static void behindAnotherOne() {
+        Check.says("It is BEHIND another one if L or S is less and neither is more.");
+        Check.due("L is less", turned(new int[] {2, 1}, new int[] {1, 1}), "2/1");
+        Check.due("L is less, of session 2", turned(new int[] {2, 2}, new int[] {1, 2}), "2/2");
+        Check.due("S is less", turned(new int[] {1, 2}, new int[] {1, 1}), "1/2");
+        Check.due("both are less", turned(new int[] {2, 2}, new int[] {1, 1}), "2/2");
+        Check.due("none is less", turned(new int[] {1, 1}, new int[] {1, 1}), "1/1");
+        Check.due("L is more", turned(new int[] {1, 1}, new int[] {2, 1}), "2/1");
+        Check.due("S is more", turned(new int[] {1, 1}, new int[] {1, 2}), "1/2");
+        Check.due("both are more", turned(new int[] {1, 1}, new int[] {2, 2}), "2/2");
+        Check.due("L is less, S is more", turned(new int[] {2, 1}, new int[] {1, 2}), "2/2");
+        Check.due("L is more, S is less", turned(new int[] {1, 2}, new int[] {2, 1}), "2/2");
+    }
+
+    private static void joined() {
+        Check.says("Two views JOINED: the greater L, the greater S.");
+        Check.due("4/1 and 1/2", turned(new int[] {4, 1}, new int[] {1, 2}), "4/2");
+        Check.due("0/2 and 3/1", turned(new int[] {0, 2}, new int[] {3, 1}), "3/2");
+        Check.due("0/1 and 3/2", turned(new int[] {0, 1}, new int[] {3, 2}), "3/2");
+    }
+
     private static void replicaAtFirst() {
         Check.says("a BASE, 0 at first");
         Net net = new Net(7);
@@ -320,6 +351,11 @@ final class EdgesOfTermsTest {
         Check.due("one between", net.state(3), "NORMAL 0/1 base 0 log 0 point 0 held 0 last 0/1 synced 0");
         Check.says("a LOG of at most 100 ENTRIES, each a request or a NOTHING, in slots from 1 on");
         Check.due("an empty log has no slot 1", net.table.entry(0, 1, 0), -1);
+        Check.says("a STATUS: NORMAL (at first), GAP or CHANGE; the view in which it was NORMAL last");
+        for (int what = 0; what <= 10; what++) {
+            Check.due("what " + what, net.table.replica(5, what), what == 3 || what == 9 ? 1 : 0);
+        }
+        Check.says("in slots from 1 on");
         net.ask(0, Net.PUT, 0, 4).stamped(1, 0);
         Check.due("no slot 0", net.table.entry(0, 0, 0), -1);
         Check.due("slot 1", net.table.entry(0, 1, 0), 1);

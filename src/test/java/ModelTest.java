@@ -1,7 +1,12 @@
+import java.util.Arrays;
 import java.util.Random;
 
-/** Random calls on the class and on the model, compared after each: every answer, every exception. */
+/**
+ * Random calls on the class and on the model, compared: every answer, every exception. Questions are calls,
+ * too, of which an object has 512: some are asked between the others, and at the end those that tell most.
+ */
 final class ModelTest {
+    private static final int CALLS_OF_AN_OBJECT = 512;
     /** How often each call is made, in the order of CALLS. */
     private static final String[] CALLS = {"request", "again", "deliver", "lose", "flow", "down", "up",
         "suspect", "nudge", "sync", "fail", "install", "wrong"};
@@ -20,6 +25,7 @@ final class ModelTest {
     private final OrderedTable table;
     private final Model model;
     private final StringBuilder made = new StringBuilder();
+    private int calls;
     private String differs;
 
     private ModelTest(long seed) {
@@ -31,7 +37,7 @@ final class ModelTest {
     }
 
     public static void main(String[] args) {
-        int runs = args.length > 0 ? Integer.parseInt(args[0]) : 1600;
+        int runs = args.length > 0 ? Integer.parseInt(args[0]) : 8000;
         int from = args.length > 1 ? Integer.parseInt(args[1]) : 0;
         for (int seed = from; seed < from + runs; seed++) {
             ModelTest test = new ModelTest(seed);
@@ -45,10 +51,42 @@ final class ModelTest {
     }
 
     private void run(int[] weights) {
-        for (int i = 0; i < 512 && differs == null; i++) {
-            step(CALLS[choose(weights)]);
-            compareAnswers(i % 16 == 0);
+        int last = CALLS_OF_AN_OBJECT - model.n * 11 - 40;
+        int questions = random.nextInt(5);
+        while (calls < last && differs == null) {
+            if (random.nextInt(10) < questions) {
+                question();
+            } else {
+                step(CALLS[choose(weights)]);
+            }
         }
+        for (int r = 0; r < model.n; r++) {
+            for (int what = 0; what <= 10; what++) {
+                same("replica", r, what);
+            }
+        }
+        while (calls < CALLS_OF_AN_OBJECT && differs == null) {
+            question();
+        }
+    }
+
+    private void question() {
+        int r = random.nextInt(model.n + 2) - 1;
+        switch (random.nextInt(16)) {
+            case 0: case 1: case 2: case 3: case 4: same("replica", r, random.nextInt(13) - 1); break;
+            case 5: case 6: case 7: same("entry", r, slot(r), random.nextInt(8) - 1); break;
+            case 8: case 9: same("word", r, random.nextInt(10) - 1); break;
+            case 10: same("client", random.nextInt(6) - 1, random.nextInt(7) - 1); break;
+            case 11: same("answer", random.nextInt(6) - 1); break;
+            case 12: same("about", random.nextInt(9) - 1); break;
+            case 13: case 14: same("message", random.nextInt(model.about(0) + 2) - 1, random.nextInt(6) - 1); break;
+            default: same("broken"); break;
+        }
+    }
+
+    private int slot(int r) {
+        int length = Math.max(0, model.replica(r, 5));
+        return random.nextInt(3) == 0 ? length - random.nextInt(4) + 1 : random.nextInt(length + 3) - 1;
     }
 
     private int choose(int[] weights) {
@@ -95,11 +133,16 @@ final class ModelTest {
     }
 
     private void both(String call, int... a) {
-        made.append("; ").append(call).append(java.util.Arrays.toString(a));
+        made.append("; ").append(call).append(Arrays.toString(a));
+        same(call, a);
+    }
+
+    private void same(String call, int... a) {
+        calls++;
         String got = outcome(() -> onTable(call, a));
         String want = outcome(() -> onModel(call, a));
-        if (!got.equals(want)) {
-            differs = call + " answered " + got + ", the model " + want;
+        if (!got.equals(want) && differs == null) {
+            differs = call + Arrays.toString(a) + " answered " + got + ", the model " + want;
         }
     }
 
@@ -128,7 +171,15 @@ final class ModelTest {
             case "nudge": return table.nudge(a[0]);
             case "sync": table.sync(a[0]); return 0;
             case "fail": return table.fail() ? 1 : 0;
-            default: return table.install();
+            case "install": return table.install();
+            case "replica": return table.replica(a[0], a[1]);
+            case "entry": return table.entry(a[0], a[1], a[2]);
+            case "word": return table.word(a[0], a[1]);
+            case "client": return table.client(a[0], a[1]);
+            case "answer": return table.answer(a[0]);
+            case "about": return table.about(a[0]);
+            case "message": return table.message(a[0], a[1]);
+            default: return table.broken();
         }
     }
 
@@ -145,53 +196,15 @@ final class ModelTest {
             case "nudge": return model.nudge(a[0]);
             case "sync": model.sync(a[0]); return 0;
             case "fail": return model.fail() ? 1 : 0;
-            default: return model.install();
-        }
-    }
-
-    private void same(String what, long got, long want) {
-        if (got != want && differs == null) {
-            differs = what + " answered " + got + ", the model " + want;
-        }
-    }
-
-    private void compareAnswers(boolean all) {
-        for (int r = -1; r <= model.n; r++) {
-            for (int what = -1; what <= 11; what++) {
-                same("replica(" + r + ", " + what + ")", table.replica(r, what), model.replica(r, what));
-            }
-            if (all) {
-                compareLog(r);
-            }
-        }
-        for (int c = -1; c <= 4; c++) {
-            for (int what = -1; what <= 5; what++) {
-                same("client(" + c + ", " + what + ")", table.client(c, what), model.client(c, what));
-            }
-            same("answer(" + c + ")", table.answer(c), model.answer(c));
-        }
-        for (int what = -1; what <= 7; what++) {
-            same("about(" + what + ")", table.about(what), model.about(what));
-        }
-        for (int k = all ? -1 : Math.max(-1, model.about(0) - 9); k <= model.about(0); k++) {
-            for (int what = -1; what <= 4; what++) {
-                same("message(" + k + ", " + what + ")", table.message(k, what), model.message(k, what));
-            }
-        }
-        if (all) {
-            same("broken()", table.broken(), model.broken());
-        }
-    }
-
-    private void compareLog(int r) {
-        for (int slot = -1; slot <= model.replica(r, 5) + 1; slot++) {
-            for (int what = -1; what <= 6; what++) {
-                same("entry(" + r + ", " + slot + ", " + what + ")",
-                    table.entry(r, slot, what), model.entry(r, slot, what));
-            }
-        }
-        for (int key = -1; key <= 8; key++) {
-            same("word(" + r + ", " + key + ")", table.word(r, key), model.word(r, key));
+            case "install": return model.install();
+            case "replica": return model.replica(a[0], a[1]);
+            case "entry": return model.entry(a[0], a[1], a[2]);
+            case "word": return model.word(a[0], a[1]);
+            case "client": return model.client(a[0], a[1]);
+            case "answer": return model.answer(a[0]);
+            case "about": return model.about(a[0]);
+            case "message": return model.message(a[0], a[1]);
+            default: return model.broken();
         }
     }
 }

@@ -8,11 +8,15 @@ final class UnreachableTest {
     private static final int CHANGE = 2;
 
     public static void main(String[] args) {
+        if (!Behind.fits()) {
+            return;
+        }
         pointBeyondTheLog();
         numberBelowTheLatest();
         numberThatIsHeld();
         foundInsteadOfWhatIsHeld();
         gapCommitToAFullLog();
+        gapCommitOfWhatIsHeld();
         greatestBySThenL();
         requestOfItsOwnFirst();
         requestByNumbers();
@@ -95,38 +99,49 @@ final class UnreachableTest {
         Check.due("the 100th is a request still", net.table.entry(1, 100, 0), 1);
     }
 
-    /** 2 has 0.1, 3 has 0.1 1.1, both will turn to 1/1. */
+    private static void gapCommitOfWhatIsHeld() {
+        Check.says("a NOTHING comes there (what was held for it is not");
+        Net net = new Net(3).ask(0, Net.PUT, 0, 1).again(0).again(0).stamped(2, 0).stamped(3, 1).loseAll("LOOKUP");
+        ((int[]) Behind.get(Behind.get(Behind.replica(net, 1), "held"), "slots"))[0] = 1;
+        net.deliver("GAP COMMIT", 0, 1);
+        Check.due("the NOTHING is taken, not what was held", net.log(1), "-");
+        Check.due("it is held no more", net.table.replica(1, 7), 0);
+        net.loseAll("STAMPED");
+        Check.due("nothing is MISSING", net.air(), "GAP COMMIT 0>2, GAP REPLY 1>0");
+    }
+
+    /** 0 has 0.1, 3 has 0.1 1.1, both will turn to 1/1. */
     private static Net twoLogs() {
-        return new Net(5).ask(0, Net.PUT, 0, 1).ask(1, Net.PUT, 0, 2).stamped(1, 2, 3).stamped(2, 3).loseAll();
+        return new Net(5).ask(0, Net.PUT, 0, 1).ask(1, Net.PUT, 0, 2).stamped(1, 0, 3).stamped(2, 3).loseAll();
     }
 
     private static Net merge(Net net) {
-        net.table.suspect(2);
+        net.table.suspect(0);
         net.table.suspect(3);
-        return net.deliver("TURNED", 2, 1).deliver("TURNED", 3, 1);
+        return net.deliver("TURNED", 0, 1).deliver("TURNED", 3, 1);
     }
 
     private static void greatestBySThenL() {
         Check.says("the greatest view of the last NORMAL (by S, then L)");
         Net bySession = twoLogs();
-        Behind.setLastNormal(bySession, 2, 0, 2);
+        Behind.setLastNormal(bySession, 0, 0, 2);
         Behind.setLastNormal(bySession, 3, 4, 1);
         Check.due("S 2 before L 4", merge(bySession).log(1), "0.1");
         Check.due("BASE is the length, as S is not its own", bySession.table.replica(1, 4), 1);
         Net byLead = twoLogs();
-        Behind.setLastNormal(byLead, 2, 3, 1);
+        Behind.setLastNormal(byLead, 0, 3, 1);
         Behind.setLastNormal(byLead, 3, 4, 1);
         Check.due("L 4 before L 3", merge(byLead).log(1), "0.1 1.1");
         Net lower = twoLogs();
-        Behind.setLastNormal(lower, 2, 4, 1);
+        Behind.setLastNormal(lower, 0, 4, 1);
         Behind.setLastNormal(lower, 3, 3, 1);
         Check.due("L 4 before L 3, the other way", merge(lower).log(1), "0.1");
     }
 
     private static void requestOfItsOwnFirst() {
         Check.says("else the request that one of them has (its own first, then by their numbers)");
-        Net net = new Net(5).ask(0, Net.PUT, 0, 1).ask(1, Net.PUT, 0, 2).stamped(1, 1, 2, 3).loseAll();
-        Behind.putEntry(net, 2, 1, 2);
+        Net net = new Net(5).ask(0, Net.PUT, 0, 1).ask(1, Net.PUT, 0, 2).stamped(1, 0, 1, 3).loseAll();
+        Behind.putEntry(net, 0, 1, 2);
         Behind.putEntry(net, 3, 1, 2);
         Check.due("its own", merge(net).log(1), "0.1");
     }
@@ -134,40 +149,41 @@ final class UnreachableTest {
     private static void requestByNumbers() {
         Check.says("(its own first, then by their numbers)");
         Net net = twoLogs();
-        Behind.putEntry(net, 2, 1, 2);
-        Check.due("that of 2 before that of 3", merge(net).log(1), "1.1 1.1");
+        Behind.putEntry(net, 0, 1, 2);
+        Check.due("that of 0 before that of 3", merge(net).log(1), "1.1 1.1");
         Net later = twoLogs();
-        Behind.putEntry(later, 2, 1, 2);
-        later.table.suspect(2);
+        Behind.putEntry(later, 0, 1, 2);
+        later.table.suspect(0);
         later.table.suspect(3);
-        later.deliver("TURNED", 3, 1).deliver("TURNED", 2, 1);
+        later.deliver("TURNED", 3, 1).deliver("TURNED", 0, 1);
         Check.due("whichever came first", later.log(1), "1.1 1.1");
+    }
+
+    /** -1, -2 and so on. */
+    private static void setBases(Net net) {
+        for (int r = 0; r < net.size; r++) {
+            Behind.set(Behind.replica(net, r), "base", -1 - r);
+        }
     }
 
     private static void baseOfItsOwnFirst() {
         Check.says("BASE is that of these (its own if it is one of them");
         Net net = twoLogs();
-        for (int r = 1; r <= 3; r++) {
-            Behind.set(Behind.replica(net, r), "base", -r);
-        }
-        Check.due("its own", merge(net).table.replica(1, 4), -1);
+        setBases(net);
+        Check.due("its own", merge(net).table.replica(1, 4), -2);
     }
 
     private static void baseOfTheLowestNumber() {
         Check.says("else that of the lowest number) if that view's S is that of its view");
         Net net = twoLogs();
-        for (int r = 1; r <= 3; r++) {
-            Behind.set(Behind.replica(net, r), "base", -r);
-        }
-        Behind.setLastNormal(net, 2, 1, 1);
+        setBases(net);
+        Behind.setLastNormal(net, 0, 1, 1);
         Behind.setLastNormal(net, 3, 1, 1);
-        Check.due("that of 2", merge(net).table.replica(1, 4), -2);
+        Check.due("that of 0", merge(net).table.replica(1, 4), -1);
         Net one = twoLogs();
-        for (int r = 1; r <= 3; r++) {
-            Behind.set(Behind.replica(one, r), "base", -r);
-        }
+        setBases(one);
         Behind.setLastNormal(one, 3, 1, 1);
-        Check.due("that of 3, as 2 is not one of them", merge(one).table.replica(1, 4), -3);
+        Check.due("that of 3, as 0 is not one of them", merge(one).table.replica(1, 4), -4);
     }
 
     private static void leadersLatestAnswer() {
